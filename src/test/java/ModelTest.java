@@ -498,11 +498,14 @@ public final class ModelTest {
         int answer();
     }
 
-    private static String outcome(Call call) {
+    /** The answer, or the exception's name, with a mark if it is the machine's or the library's own. */
+    private static String outcome(String thrower, Call call) {
         try {
             return Integer.toString(call.answer());
         } catch (RuntimeException e) {
-            return e.getClass().getSimpleName();
+            StackTraceElement[] trace = e.getStackTrace();
+            boolean isOwn = trace.length > 0 && trace[0].getClassName().startsWith(thrower);
+            return (isOwn ? "" : "not thrown by " + thrower + ": ") + e.getClass().getSimpleName();
         }
     }
 
@@ -597,8 +600,8 @@ public final class ModelTest {
                 call = 24;
             }
             int which = call;
-            String got = outcome(() -> ask(x, which, a));
-            String want = outcome(() -> ask(m, which, a));
+            String got = outcome("Thumbreel", () -> ask(x, which, a));
+            String want = outcome("ModelTest", () -> ask(m, which, a));
             if (want.endsWith("Exception")) {
                 thrown[call]++;
             } else {

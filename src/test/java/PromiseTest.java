@@ -33,12 +33,19 @@ public final class PromiseTest {
         try {
             got = "the answer " + call.answer();
         } catch (RuntimeException e) {
-            got = e.getClass().getSimpleName();
+            got = e.getClass().getSimpleName() + thrower(e);
         }
         if (!got.equals(want)) {
             wrong++;
             System.out.println(promise + ": " + what + " gave " + got + ", due is " + want);
         }
+    }
+
+    /** Empty if the class itself threw it by a throw statement, not the machine or the library. */
+    private static String thrower(RuntimeException e) {
+        StackTraceElement[] trace = e.getStackTrace();
+        boolean isOwn = trace.length > 0 && trace[0].getClassName().startsWith("Thumbreel");
+        return isOwn && e.getCause() == null ? "" : " of the machine or the library";
     }
 
     private static void dueRow(String what, int[] got, int... want) {
@@ -182,6 +189,15 @@ public final class PromiseTest {
             dueThrow("curve " + far, ARGUMENT, () -> x.draw(0, 0, 0, 0, far));
         }
 
+        Thumbreel z = new Thumbreel();
+        z.addBook();
+        z.draw(0, 0, 400, 1, Thumbreel.SLOW_OUT);
+        z.draw(0, 1, 0, 0, Thumbreel.EVEN);
+        z.draw(0, 0, 0, 1, Thumbreel.SLOW_IN);
+        dueRow("in-betweens and curve go with the drawing", frameRow(z, 0), 0, 100, 400, 100, 0);
+        z.erase(0, 0);
+        dueRow("the other way as well", frameRow(z, 0), 400, 100, 0);
+
         Thumbreel y = withBook(3);
         y.order(0, 2);
         y.print(10);
@@ -314,6 +330,7 @@ public final class PromiseTest {
         dueRow("BOTH down", easedRow(999, 0, 5, Thumbreel.BOTH), 999, 944, 777, 500, 222, 56, 0);
         dueRow("BOTH, an odd number of steps", easedRow(0, 900, 2, Thumbreel.BOTH), 0, 200, 700, 900);
         dueRow("BOTH, one in-between", easedRow(0, 999, 1, Thumbreel.BOTH), 0, 499, 999);
+        dueRow("BOTH, five steps", easedRow(0, 500, 4, Thumbreel.BOTH), 0, 40, 160, 340, 460, 500);
         dueRow("no in-betweens", easedRow(3, 4, 0, Thumbreel.SLOW_OUT), 3, 4);
         Thumbreel x = withBook(2);
         dueThrow("no frame", INDEX, () -> x.frameAt(0, 2));
@@ -515,6 +532,13 @@ public final class PromiseTest {
         due("one sheet of two leaves", x.print(1), 1);
         dueRow("what was spoiled", sheetRow(x, 2), -1, -1, -1, -1, 10002, -1, -1, 20002);
 
+        x.erase(1, 3);
+        x.erase(1, 2);
+        x.move(0, 0, 998);
+        x.move(1, 0, 998);
+        due("now the first order's book is longer", x.print(1), 1);
+        dueRow("it comes first", sheetRow(x, 3), -1, -1, -1, -1, 0, 20000, 10000, 1000);
+
         Thumbreel y = new Thumbreel();
         y.addBook();
         for (int i = 0; i < 7; i++) {
@@ -671,6 +695,16 @@ public final class PromiseTest {
         due("the others wait", x.waiting(), 3);
         due("the next to be cut", x.cut(0), 0);
         due("is the first of them", x.leaf(0, 0, 0), 501);
+        Thumbreel y = withBook(8);
+        y.order(0, 1);
+        y.print(1);
+        for (int i = 0; i < 7; i++) {
+            y.move(0, i, 500);
+        }
+        due("the leaf in cell 0 is of use", y.discard(), 0);
+        y.move(0, 7, 500);
+        due("the first sheet", y.discard(), 1);
+        due("and the same again", y.discard(), 0);
     }
 
     private static void promise19() {
@@ -745,6 +779,20 @@ public final class PromiseTest {
         Thumbreel mild = withUnlikeTrims();
         mild.setTolerance(3);
         due("3 is not above 0 and 3", mild.bind(0, 0), 3);
+
+        Thumbreel first = withBook(1);
+        first.order(0, 1);
+        first.print(1);
+        first.cut(1);
+        for (int i = 0; i < 13; i++) {
+            first.draw(0, 1, 100 + i, 0, 0);
+            first.print(1);
+            first.cut(0);
+            if (i < 12) {
+                first.erase(0, 1);
+            }
+        }
+        due("3 is above 0 and 2, the least of the first frame", first.bind(0, 0), -1);
 
         Thumbreel y = withBook(0);
         y.order(0, 2);
