@@ -279,6 +279,16 @@ public final class OrderSentencesTest {
             Sentences.due("one leaf", x.waits(0), 1);
             x.print(1);
             Sentences.due("none, though they wait", x.waits(0), 0);
+            Thumbreel y = Sentences.withOrder(1, 1, 2, 3);
+            y.addBook();
+            Sentences.addDrawings(y, 1, 1, 2);
+            y.order(1, 1);
+            y.print(1);
+            y.move(0, 0, 9);
+            Sentences.due("one lacks of the order ahead", y.waits(0), 1);
+            Sentences.due("none of its own, whatever lacks ahead", y.waits(1), 0);
+            y.move(1, 1, 9);
+            Sentences.due("one of its own, on the sheet that they share", y.waits(1), 1);
         });
         Sentences.sentence("Promise 10", "as things are now", () -> {
             Thumbreel x = Sentences.withOrder(2, 1, 2, 3, 4);

@@ -1,9 +1,9 @@
 import java.util.ArrayList;
 import java.util.List;
 
-/** The sentences about exceptions: which of several is thrown, and that a call that throws changes nothing. */
+/** The sentences about exceptions, the constants and how long an object is used. */
 public final class RefusalSentencesTest {
-    /** A call that is refused on each of the objects that it names. */
+    /** A call that is refused, and the exception that is due. */
     private static final class Refusal {
         final String what;
         final String exception;
@@ -262,6 +262,19 @@ public final class RefusalSentencesTest {
         });
     }
 
+    private static void constants() {
+        Sentences.sentence("Exceptions", "`NONE = -1`: There is none.", () ->
+            Sentences.due("NONE", Thumbreel.NONE, -1));
+        Sentences.sentence("Exceptions", "`EVEN = 0, SLOW_IN = 1, SLOW_OUT = 2, BOTH = 3`: Curves.", () -> {
+            int[] curves = {Thumbreel.EVEN, Thumbreel.SLOW_IN, Thumbreel.SLOW_OUT, Thumbreel.BOTH};
+            Sentences.dueRow("curves", curves, 0, 1, 2, 3);
+        });
+        Sentences.sentence("Exceptions", "`LEFT = 0, RIGHT = 1, UP = 2, DOWN = 3`: Folds.", () -> {
+            int[] folds = {Thumbreel.LEFT, Thumbreel.RIGHT, Thumbreel.UP, Thumbreel.DOWN};
+            Sentences.dueRow("folds", folds, 0, 1, 2, 3);
+        });
+    }
+
     private static void calls() {
         Sentences.sentence("What it is", "An object is used for at most 512 calls after it has been made", () -> {
             Thumbreel x = new Thumbreel();
@@ -297,6 +310,7 @@ public final class RefusalSentencesTest {
         kinds();
         whichIsThrown();
         changesNothing();
+        constants();
         calls();
         Sentences.finish("Exceptions", "What it is");
     }

@@ -128,6 +128,26 @@ public final class SheetSentencesTest {
         });
     }
 
+    private static void directions() {
+        dueWith(Thumbreel.RIGHT, "With RIGHT the right half is turned over onto the left half");
+        dueWith(Thumbreel.LEFT, "With LEFT the left half is turned over onto the right one");
+        dueWith(Thumbreel.DOWN, "with DOWN the upper half onto the lower one");
+        dueWith(Thumbreel.UP, "with UP the lower half onto the upper one");
+    }
+
+    private static void dueWith(int fold, String words) {
+        Sentences.sentence("Sheets", words, () -> {
+            Thumbreel x = new Thumbreel();
+            for (int[] folding : FOLDINGS) {
+                if (folding[0] == fold || folding[1] == fold || folding[2] == fold) {
+                    x.setFolds(folding[0], folding[1], folding[2]);
+                    Sentences.dueRow("cells by " + told(folding), Sentences.cellRow(x), cellsOf(folding));
+                    Sentences.dueRow("places by " + told(folding), Sentences.placeRow(x), placesOf(folding));
+                }
+            }
+        });
+    }
+
     private static void promise11() {
         Sentences.sentence("Promise 11", "for sheets that are printed from now on", () -> {
             Thumbreel x = Sentences.withOrder(3, 0, 1, 2, 3, 4, 5, 6, 7);
@@ -147,7 +167,9 @@ public final class SheetSentencesTest {
         });
         Sentences.sentence("Promise 11", "if one is no fold", () -> {
             Thumbreel x = new Thumbreel();
-            int[][] refused = {{-1, 1, 2}, {4, 1, 2}, {1, -1, 2}, {1, 4, 2}, {1, 1, -1}, {1, 1, 4}, {2, 1, 4}, {2, -1, 1}};
+            // Beside two of LEFT and RIGHT only the number that is no fold is wrong, as it is beside one of each.
+            int[][] refused = {{-1, 1, 0}, {4, 1, 1}, {1, -1, 0}, {0, 4, 1}, {1, 1, -1}, {1, 0, 4},
+                {-1, 1, 2}, {4, 1, 2}, {1, -1, 2}, {1, 4, 2}, {2, 1, 4}, {2, -1, 1}};
             for (int[] a : refused) {
                 Sentences.refusedRun(Sentences.ARGUMENT, told(a), () -> x.setFolds(a[0], a[1], a[2]));
             }
@@ -155,6 +177,8 @@ public final class SheetSentencesTest {
                 Sentences.refusedRun(Sentences.ARGUMENT, "first " + far, () -> x.setFolds(far, 0, 2));
                 Sentences.refusedRun(Sentences.ARGUMENT, "second " + far, () -> x.setFolds(0, far, 2));
                 Sentences.refusedRun(Sentences.ARGUMENT, "third " + far, () -> x.setFolds(0, 0, far));
+                Sentences.refusedRun(Sentences.ARGUMENT, "first, two sideways, " + far, () -> x.setFolds(far, 1, 0));
+                Sentences.refusedRun(Sentences.ARGUMENT, "second, two sideways, " + far, () -> x.setFolds(1, far, 0));
             }
             Sentences.dueRow("as at first", Sentences.cellRow(x), 4, 7, 6, 5, 1, 2, 3, 0);
         });
@@ -357,6 +381,7 @@ public final class SheetSentencesTest {
 
     public static void main(String[] args) {
         terms();
+        directions();
         promise11();
         promises12And13();
         promise14();
