@@ -356,7 +356,7 @@ public final class Thumbreel {
         int place = 0;
         for (int turn = 0; turn < orders.size() && turn < turns.length; turn++) {
             int order = turns[turn];
-            if (order < orders.size()) {
+            if (order >= 0 && order < orders.size()) {
                 place = orders.get(order).fill(sheet, place);
             }
         }
